@@ -84,6 +84,15 @@ public final class P11JointTest {
         fits("FLOAT with 1", FLOAT, 1002, 1);
         fitsNot("FLOAT beyond 1", FLOAT, 1003, 1);
 
+        DovetailRow longest = new DovetailRow();
+        longest.board(DovetailRow.PINE, 0, 0, 100, 30000, 100);
+        longest.board(DovetailRow.PINE, 0, 1, 100, 30000, 100);
+        longest.cut(0, 0, 30000, 100, false);
+        longest.cut(1, 0, 29999, 100, false);
+        Check.due("the greatest that there is", longest.joint(LONG, 0, 1, 30000, 0), 0);
+        Check.due("by 1 too short", Check.outcome(longest, s -> s.joint(LONG, 1, 0, 30000, 0)),
+                "throws java.lang.IllegalStateException");
+
         DovetailRow unlike = new DovetailRow();
         unlike.board(DovetailRow.PINE, 0, 0, 1000, 9000, 100);
         unlike.cut(0, 0, 300, 700, false);
