@@ -13,9 +13,12 @@ public final class P04BoardTest {
         Check.due("that place of another flitch", shop.board(DovetailRow.CHERRY, 8, 20, 500, 500, 100), 3);
 
         ranges();
-        Check.refused("its place again", Check.STATE, Shops::oneBoard, s -> s.board(DovetailRow.OAK, 3, 5, 500, 500, 100));
-        Check.refused("another species", Check.STATE, Shops::oneBoard, s -> s.board(DovetailRow.PINE, 3, 6, 500, 500, 100));
-        Check.refused("both, and a range", Check.RANGE, Shops::oneBoard, s -> s.board(DovetailRow.PINE, 3, 5, 99, 500, 100));
+        Check.refused("its place again", Check.STATE, Shops::oneBoard, s ->
+                s.board(DovetailRow.OAK, 3, 5, 500, 500, 100));
+        Check.refused("another species", Check.STATE, Shops::oneBoard, s ->
+                s.board(DovetailRow.PINE, 3, 6, 500, 500, 100));
+        Check.refused("both, and a range", Check.RANGE, Shops::oneBoard, s ->
+                s.board(DovetailRow.PINE, 3, 5, 99, 500, 100));
         later();
         Check.refused("a 21st", Check.STATE, Shops::full, s -> s.board(DovetailRow.PINE, 1, 0, 500, 500, 100));
         Check.refused("a 21st, and a range", Check.RANGE, Shops::full, s -> s.board(4, 1, 0, 500, 500, 100));
