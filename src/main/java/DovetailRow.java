@@ -16,7 +16,7 @@ public final class DovetailRow {
     private static final int NARROWEST_BOARD = 100, SHORTEST_BOARD = 100, SHORTEST = 10;
     private static final int WIDEST = 6000, LONGEST = 30000, THICKEST_TONGUE = 200;
     private static final int KERF = 30, SHARP = 100, SAW = 0, CHISEL = 1;
-    private static final int MOST_MOVEMENT = 5, MOST_MINUTES = 30;
+    private static final int SLOWNESS = 4, MOST_MOVEMENT = 5, MOST_MINUTES = 30;
     private static final int CLAMPS_AT_FIRST = 6, MOST_CLAMPS = 99;
 
     private final ArrayList<Board> boards = new ArrayList<>();
@@ -566,7 +566,9 @@ public final class DovetailRow {
 
         int moistureAfter(int before, int airMoisture) {
             int difference = airMoisture - before;
-            int change = difference / (4 + coats);
+            int slowness = SLOWNESS + coats;
+            // Coats are never below 0, but a divisor is looked at all the same.
+            int change = slowness > 0 ? difference / slowness : 0;
             return before + (change != 0 ? change : Integer.signum(difference));
         }
 

@@ -24,11 +24,26 @@ final class Check {
         }
     }
 
-    /** The call throws just that, by a throw of the class itself, and changes nothing. */
+    /** The call answers just that. */
+    static void answers(String what, int want, Make make, Call call) {
+        due(what, outcome(make.shop(), call), Integer.toString(want));
+    }
+
+    /** The call throws just that, by a throw of the class itself, and changes nothing of all that can be asked. */
     static void refused(String what, Class<? extends RuntimeException> want, Make make, Call call) {
-        DovetailRow shop = make.shop();
+        due(what, outcome(make.shop(), call), "throws " + want.getName());
+        due(what + ", what it left", Tale.difference(() -> after(make, call), make), "");
+    }
+
+    /** The call throws just that on this very shop, whatever else it was used for. */
+    static void refusedNow(String what, Class<? extends RuntimeException> want, DovetailRow shop, Call call) {
         due(what, outcome(shop, call), "throws " + want.getName());
-        due(what + ", what it left", Tale.of(shop), Tale.of(make.shop()));
+    }
+
+    private static DovetailRow after(Make make, Call call) {
+        DovetailRow shop = make.shop();
+        outcome(shop, call);
+        return shop;
     }
 
     /** The answer as a text, or what was thrown; something that the machine or the library threw is marked. */
@@ -40,6 +55,11 @@ final class Check {
             boolean isOwn = trace.length > 0 && trace[0].getClassName().startsWith("DovetailRow");
             return "throws " + e.getClass().getName() + (isOwn ? "" : ", not by itself");
         }
+    }
+
+    /** How many answers were not as due until now. */
+    static int wrongSoFar() {
+        return wrong;
     }
 
     static void end() {

@@ -99,29 +99,20 @@ public final class P06CutTest {
         Check.due("the board's width then", shop.ofBoard(0, 1), 2035);
     }
 
-    private static DovetailRow worn(int species, int cuts) {
-        DovetailRow shop = new DovetailRow();
-        shop.board(species, 0, 0, 100, 10000, 100);
-        for (int i = 0; i < cuts; i++) {
-            shop.cut(0, i * 100, 50, 50, false);
-        }
-        return shop;
-    }
-
     private static void saws() {
         int[] wears = {2, 4, 7, 9};
         int[] mostCuts = {40, 25, 14, 11};
         for (int i = 0; i <= 3; i++) {
             int species = i;
             int cuts = mostCuts[i];
-            Check.due("what wears it", worn(species, 1).sharpen(0), 100 - wears[i]);
-            Check.due("the saw then", worn(species, cuts).sharpen(0), 100 - cuts * wears[i]);
+            Check.due("what wears it", Shops.sawn(species, 1).sharpen(0), 100 - wears[i]);
+            Check.due("the saw then", Shops.sawn(species, cuts).sharpen(0), 100 - cuts * wears[i]);
             if (i > 0) {
-                Check.refused("a blunt saw", Check.STATE, () -> worn(species, cuts),
+                Check.refused("a blunt saw", Check.STATE, () -> Shops.sawn(species, cuts),
                         s -> s.cut(0, 9000, 50, 50, false));
             }
         }
-        DovetailRow sharpened = worn(3, 11);
+        DovetailRow sharpened = Shops.sawn(3, 11);
         sharpened.sharpen(1);
         Check.due("the other edge sharpened", Check.outcome(sharpened, s -> s.cut(0, 9000, 50, 50, false)),
                 "throws java.lang.IllegalStateException");

@@ -1,7 +1,5 @@
 /** Promise 14: glue. */
 public final class P14GlueTest {
-    private static final int LONG = DovetailRow.LONG;
-
     public static void main(String[] args) {
         DovetailRow shop = Shops.threeJoints();
         Check.due("one", shop.glue(4), 4);
@@ -60,44 +58,31 @@ public final class P14GlueTest {
         Check.due("1 after that", late.glue(2), 4);
     }
 
-    private static DovetailRow joints(int clamps, int... sizes) {
-        DovetailRow shop = new DovetailRow();
-        shop.board(DovetailRow.PINE, 0, 0, 100, 30000, 100);
-        shop.board(DovetailRow.PINE, 0, 1, 100, 30000, 100);
-        shop.cut(0, 0, 30000, 100, false);
-        shop.cut(1, 0, 100, 100, false);
-        for (int size : sizes) {
-            shop.joint(LONG, 0, 1, size, 0);
-        }
-        shop.clamps(clamps);
-        return shop;
-    }
-
     private static void minutes() {
-        Check.due("999", joints(99, 999).glue(1), 3);
-        Check.due("1000", joints(99, 1000).glue(1), 4);
-        Check.due("27999", joints(99, 27999).glue(1), 30);
-        Check.refused("28000", Check.STATE, () -> joints(99, 28000), s -> s.glue(1));
-        Check.due("ten of 3", joints(99, 10, 10, 10, 10, 10, 10, 10, 10, 10, 10).glue(1023), 30);
+        Check.due("999", Shops.longJoints(99, 999).glue(1), 3);
+        Check.due("1000", Shops.longJoints(99, 1000).glue(1), 4);
+        Check.due("27999", Shops.longJoints(99, 27999).glue(1), 30);
+        Check.refused("28000", Check.STATE, () -> Shops.longJoints(99, 28000), s -> s.glue(1));
+        Check.due("ten of 3", Shops.longJoints(99, 10, 10, 10, 10, 10, 10, 10, 10, 10, 10).glue(1023), 30);
         Check.refused("one of them longer", Check.STATE,
-                () -> joints(99, 10, 10, 10, 10, 10, 10, 10, 10, 10, 1000), s -> s.glue(1023));
-        Check.due("each is divided alone", joints(99, 999, 999).glue(3), 6);
-        Check.due("nine of them", joints(99, 10, 10, 10, 10, 10, 10, 10, 10, 10, 1000).glue(1022), 28);
+                () -> Shops.longJoints(99, 10, 10, 10, 10, 10, 10, 10, 10, 10, 1000), s -> s.glue(1023));
+        Check.due("each is divided alone", Shops.longJoints(99, 999, 999).glue(3), 6);
+        Check.due("nine of them", Shops.longJoints(99, 10, 10, 10, 10, 10, 10, 10, 10, 10, 1000).glue(1022), 28);
         // What was glued earlier takes no time now.
-        DovetailRow shop = joints(99, 27000, 27000);
+        DovetailRow shop = Shops.longJoints(99, 27000, 27000);
         Check.due("the first", shop.glue(1), 30);
         Check.due("the second", shop.glue(2), 30);
     }
 
     private static void clamps() {
-        Check.due("1 for 499", joints(1, 499).glue(1), 3);
-        Check.refused("2 for 500", Check.STATE, () -> joints(1, 500), s -> s.glue(1));
-        Check.due("2 for 500 of 2", joints(2, 500).glue(1), 3);
-        Check.due("each is divided alone", joints(2, 499, 499).glue(3), 6);
-        Check.refused("3 for 499 and 500", Check.STATE, () -> joints(2, 499, 500), s -> s.glue(3));
-        Check.due("3 of 3", joints(3, 499, 500).glue(3), 6);
-        Check.due("6 at first", joints(6, 2999).glue(1), 5);
-        Check.refused("7 at first", Check.STATE, () -> joints(6, 3000), s -> s.glue(1));
+        Check.due("1 for 499", Shops.longJoints(1, 499).glue(1), 3);
+        Check.refused("2 for 500", Check.STATE, () -> Shops.longJoints(1, 500), s -> s.glue(1));
+        Check.due("2 for 500 of 2", Shops.longJoints(2, 500).glue(1), 3);
+        Check.due("each is divided alone", Shops.longJoints(2, 499, 499).glue(3), 6);
+        Check.refused("3 for 499 and 500", Check.STATE, () -> Shops.longJoints(2, 499, 500), s -> s.glue(3));
+        Check.due("3 of 3", Shops.longJoints(3, 499, 500).glue(3), 6);
+        Check.due("6 at first", Shops.longJoints(6, 2999).glue(1), 5);
+        Check.refused("7 at first", Check.STATE, () -> Shops.longJoints(6, 3000), s -> s.glue(1));
     }
 
     // A CROSS counts from when it is glued, not from when it is made or its part cut.

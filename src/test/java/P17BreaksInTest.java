@@ -37,27 +37,14 @@ public final class P17BreaksInTest {
         return shop;
     }
 
-    /** Part 0 of a species, wide, at 100, with a glued joint of a size; the air is the same all year. */
-    private static DovetailRow with(int species, int width, int kind, int size, int tongue, int air) {
-        DovetailRow shop = Shops.in(air);
-        shop.board(species, 0, 0, 6000, 5000, 100);
-        shop.board(species == 0 ? 3 : 0, 1, 0, 6000, 5000, 100);
-        shop.cut(0, 0, 1000, width, false);
-        shop.cut(1, 0, 1000, 6000, false);
-        shop.joint(kind, 0, 1, size, tongue);
-        shop.clamps(99);
-        shop.glue(1);
-        return shop;
-    }
-
     // Oak from 100 by 16: moved by size * 5 * 16 / 10000, 6 from 750 on
     private static void eitherWay() {
-        Check.due("moved by 5", with(3, 1000, CROSS, 749, 0, 164).breaksIn(0, 1), DovetailRow.NONE);
-        Check.due("moved by 6", with(3, 1000, CROSS, 750, 0, 164).breaksIn(0, 1), 1);
-        Check.due("moved by -5", with(3, 1000, CROSS, 749, 0, 40).breaksIn(0, 1), DovetailRow.NONE);
+        Check.due("moved by 5", Shops.oneJoint(3, 1000, CROSS, 749, 0, 164).breaksIn(0, 1), DovetailRow.NONE);
+        Check.due("moved by 6", Shops.oneJoint(3, 1000, CROSS, 750, 0, 164).breaksIn(0, 1), 1);
+        Check.due("moved by -5", Shops.oneJoint(3, 1000, CROSS, 749, 0, 40).breaksIn(0, 1), DovetailRow.NONE);
         // by -15: 6 from 800 on
-        Check.due("moved by -5 still", with(3, 1000, CROSS, 799, 0, 40).breaksIn(0, 1), DovetailRow.NONE);
-        Check.due("moved by -6", with(3, 1000, CROSS, 800, 0, 40).breaksIn(0, 1), 1);
+        Check.due("moved by -5 still", Shops.oneJoint(3, 1000, CROSS, 799, 0, 40).breaksIn(0, 1), DovetailRow.NONE);
+        Check.due("moved by -6", Shops.oneJoint(3, 1000, CROSS, 800, 0, 40).breaksIn(0, 1), 1);
     }
 
     // 6000 / species' number times 16: the part's species counts, not the other one's
@@ -65,14 +52,14 @@ public final class P17BreaksInTest {
         int[] sizes = {1875, 1250, 938, 750};
         for (int species = 0; species <= 3; species++) {
             int size = sizes[species];
-            Check.due("just not", with(species, 6000, CROSS, size - 1, 0, 164).pass(1), 0);
-            Check.due("just so", with(species, 6000, CROSS, size, 0, 164).pass(1), 1);
+            Check.due("just not", Shops.oneJoint(species, 6000, CROSS, size - 1, 0, 164).pass(1), 0);
+            Check.due("just so", Shops.oneJoint(species, 6000, CROSS, size, 0, 164).pass(1), 1);
         }
     }
 
     private static void coats() {
         for (int coats = 0; coats <= 6; coats++) {
-            DovetailRow shop = with(3, 1000, CROSS, 1000, 0, 300);
+            DovetailRow shop = Shops.oneJoint(3, 1000, CROSS, 1000, 0, 300);
             for (int i = 0; i < coats; i++) {
                 shop.coat(0);
             }
@@ -80,7 +67,7 @@ public final class P17BreaksInTest {
             Check.due("with " + coats + " coats", shop.breaksIn(0, 1), 1);
         }
         // moister by 11, then 20: moved by 5, then 10
-        DovetailRow bare = with(3, 1000, CROSS, 1000, 0, 147);
+        DovetailRow bare = Shops.oneJoint(3, 1000, CROSS, 1000, 0, 147);
         Check.due("without coats", bare.breaksIn(0, 24), 2);
         for (int i = 0; i < 6; i++) {
             bare.coat(0);
@@ -91,24 +78,25 @@ public final class P17BreaksInTest {
 
     // The year's weather goes round.
     private static void lastMonth() {
-        DovetailRow shop = with(3, 1000, CROSS, 1000, 0, 100);
+        DovetailRow shop = Shops.oneJoint(3, 1000, CROSS, 1000, 0, 100);
         shop.pass(13);
         shop.weather(0, 300);
         Check.due("month 24, as the 12th", shop.breaksIn(0, 12), 12);
         Check.due("not before", shop.breaksIn(0, 11), DovetailRow.NONE);
         // Oak of 260 moves by 6 when it is 47 moister: 112, 121, 128, 133, 137, 140, 142, 144, 145, 146, 147
-        DovetailRow slow = with(3, 260, CROSS, 260, 0, 150);
+        DovetailRow slow = Shops.oneJoint(3, 260, CROSS, 260, 0, 150);
         Check.due("a slow one", slow.breaksIn(0, 24), 11);
         Check.due("not in 10", slow.breaksIn(0, 10), DovetailRow.NONE);
     }
 
     // Oak of 1000, from 100 down to 85: 993 wide (7.5 towards 0)
     private static void floats() {
-        Check.due("as wide as it has to be", with(3, 1000, FLOAT, 1003, 5, 40).breaksIn(0, 1), DovetailRow.NONE);
-        Check.due("less wide", with(3, 1000, FLOAT, 1004, 5, 40).breaksIn(0, 1), 1);
-        Check.due("it never breaks by being wide", with(3, 1000, FLOAT, 1000, 5, 300).breaksIn(0, 24),
+        Check.due("as wide as it has to be", Shops.oneJoint(3, 1000, FLOAT, 1003, 5, 40).breaksIn(0, 1),
                 DovetailRow.NONE);
-        DovetailRow shop = with(3, 1000, FLOAT, 1000, 5, 300);
+        Check.due("less wide", Shops.oneJoint(3, 1000, FLOAT, 1004, 5, 40).breaksIn(0, 1), 1);
+        Check.due("it never breaks by being wide", Shops.oneJoint(3, 1000, FLOAT, 1000, 5, 300).breaksIn(0, 24),
+                DovetailRow.NONE);
+        DovetailRow shop = Shops.oneJoint(3, 1000, FLOAT, 1000, 5, 300);
         Check.due("stuck", shop.pass(1), 0);
         Check.due("how it is", shop.ofJoint(0, 0), DovetailRow.STUCK);
         Check.due("a stuck one", shop.through(24), 0);

@@ -74,4 +74,93 @@ final class Shops {
         shop.sharpen(1);
         return shop;
     }
+
+    /**
+     * A shop amid its work, in the month 3: boards 0 to 2 with knots, parts 0 to 4, worn edges, 9 clamps, and the
+     * joints 0 BROKEN, 1 WHOLE, 2 LONG, 3 STUCK, 4 WHOLE, 5 DRY, which needs 0 and 2, and 6 DRY.
+     */
+    static DovetailRow busy() {
+        DovetailRow shop = glued();
+        shop.pass(2);
+        shop.board(DovetailRow.PINE, 2, 1, 3000, 8000, 120);
+        shop.board(DovetailRow.OAK, 7, 20, 2000, 5000, 100);
+        shop.knot(1, 1500, 1600);
+        shop.knot(2, 300, 400);
+        shop.cut(1, 0, 1000, 1000, false);
+        shop.cut(2, 1000, 1000, 1000, true);
+        shop.coat(3);
+        shop.joint(DovetailRow.FLOAT, 4, 3, 1000, 5);
+        shop.joint(DovetailRow.CROSS, 4, 0, 500, 0);
+        shop.joint(DovetailRow.CROSS, 3, 4, 900, 0);
+        shop.joint(DovetailRow.LONG, 0, 1, 10, 0);
+        shop.need(5, 0);
+        shop.need(5, 2);
+        shop.glue(8 + 16);
+        shop.weather(2, 148);
+        shop.weather(9, 60);
+        shop.pass(1);
+        return shop;
+    }
+
+    /**
+     * Part 0 of a species and width, 1000 long, and the other part, both at 100, with a joint that is glued there;
+     * then the air is the same all year.
+     */
+    static DovetailRow oneJoint(int species, int width, int kind, int size, int tongue, int air) {
+        DovetailRow shop = new DovetailRow();
+        shop.board(species, 0, 0, 6000, 5000, 100);
+        shop.board(species == DovetailRow.PINE ? DovetailRow.OAK : DovetailRow.PINE, 1, 0, 6000, 5000, 100);
+        shop.cut(0, 0, 1000, width, false);
+        shop.cut(1, 0, 1000, 6000, false);
+        shop.joint(kind, 0, 1, size, tongue);
+        shop.clamps(99);
+        shop.glue(1);
+        setAir(shop, air);
+        return shop;
+    }
+
+    /** Pine parts 0, which is 30000 long, and 1, with DRY LONG joints of these sizes, and so many clamps. */
+    static DovetailRow longJoints(int clamps, int... sizes) {
+        DovetailRow shop = longJointsAtFirst(sizes);
+        shop.clamps(clamps);
+        return shop;
+    }
+
+    /** The same, with the clamps that there are at first. */
+    static DovetailRow longJointsAtFirst(int... sizes) {
+        DovetailRow shop = new DovetailRow();
+        shop.board(DovetailRow.PINE, 0, 0, 100, 30000, 100);
+        shop.board(DovetailRow.PINE, 0, 1, 100, 30000, 100);
+        shop.cut(0, 0, 30000, 100, false);
+        shop.cut(1, 0, 100, 100, false);
+        for (int size : sizes) {
+            shop.joint(DovetailRow.LONG, 0, 1, size, 0);
+        }
+        return shop;
+    }
+
+    /** Oak at 100, with a CROSS of 1000 that was glued in the month 0, and still holds in this month. */
+    static DovetailRow at(int month) {
+        return later(oneJoint(DovetailRow.OAK, 1000, DovetailRow.CROSS, 1000, 0, 100), month);
+    }
+
+    /** The same shop, so many months later. */
+    static DovetailRow later(DovetailRow shop, int months) {
+        int left = months;
+        while (left > 0) {
+            shop.pass(Math.min(24, left));
+            left -= Math.min(24, left);
+        }
+        return shop;
+    }
+
+    /** So many cuts of pieces of 50 by 50 from a board of a species, one after another, and no more. */
+    static DovetailRow sawn(int species, int cuts) {
+        DovetailRow shop = new DovetailRow();
+        shop.board(species, 0, 0, 100, 10000, 100);
+        for (int i = 0; i < cuts; i++) {
+            shop.cut(0, i * 100, 50, 50, false);
+        }
+        return shop;
+    }
 }
