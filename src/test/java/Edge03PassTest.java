@@ -1,5 +1,7 @@
 /** Promise 3, row by row: pass. */
 public final class Edge03PassTest {
+    private static final int ALL = (1 << 30) - 1;
+
     public static void main(String[] args) {
         Sentence.holds("Lets months go by.", Edge03PassTest::goBy);
         Sentence.holds("`months`: 1 to 24", Edge03PassTest::months);
@@ -39,22 +41,6 @@ public final class Edge03PassTest {
         Edge.range(Check.RANGE, 1, 24, Shops::empty, (s, i) -> s.pass(i));
     }
 
-    /** Oak with 30 glued CROSS joints of 1000, all of which break in the first month. */
-    private static DovetailRow thirty() {
-        DovetailRow shop = new DovetailRow();
-        shop.board(DovetailRow.OAK, 0, 0, 1000, 5000, 100);
-        shop.cut(0, 0, 1000, 1000, false);
-        shop.cut(0, 2000, 1000, 1000, false);
-        shop.clamps(99);
-        for (int i = 0; i < 30; i++) {
-            shop.sharpen(1);
-            shop.joint(DovetailRow.CROSS, 0, 1, 1000, 0);
-            shop.glue(1 << i);
-        }
-        Shops.setAir(shop, 300);
-        return shop;
-    }
-
     private static void howMany() {
         Check.answers("none", 0, Shops::empty, s -> s.pass(1));
         Check.answers("none of the DRY ones", 0, Shops::threeJoints, s -> s.pass(24));
@@ -62,8 +48,8 @@ public final class Edge03PassTest {
         Check.answers("one in two months", 1, Shops::glued, s -> s.pass(2));
         Check.answers("both in three", 2, Shops::glued, s -> s.pass(3));
         Check.answers("both in all, each once", 2, Shops::glued, s -> s.pass(24));
-        Check.answers("all 30", 30, Edge03PassTest::thirty, s -> s.pass(1));
-        Check.answers("none is left", 0, Edge03PassTest::thirty, s -> s.pass(1) - 30 + s.pass(24));
+        Check.answers("all 30", 30, () -> Shops.thirtyGlued(ALL), s -> s.pass(1));
+        Check.answers("none is left", 0, () -> Shops.thirtyGlued(ALL), s -> s.pass(1) - 30 + s.pass(24));
     }
 
     private static void outOfItsRange() {

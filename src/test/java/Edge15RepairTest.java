@@ -77,18 +77,7 @@ public final class Edge15RepairTest {
     }
 
     private static DovetailRow thirtyBroken() {
-        DovetailRow shop = new DovetailRow();
-        shop.board(OAK, 0, 0, 1000, 5000, 100);
-        shop.cut(0, 0, 1000, 1000, false);
-        shop.cut(0, 2000, 1000, 1000, false);
-        for (int i = 0; i < 30; i++) {
-            shop.sharpen(1);
-            shop.joint(CROSS, 0, 1, 1000, 0);
-            shop.glue(1 << i);
-        }
-        Shops.setAir(shop, 300);
-        shop.pass(1);
-        return shop;
+        return Shops.later(Shops.thirtyGlued((1 << 30) - 1), 1);
     }
 
     private static void itsSize() {

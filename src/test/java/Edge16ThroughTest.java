@@ -37,24 +37,15 @@ public final class Edge16ThroughTest {
         return shop;
     }
 
-    /** Oak with 6 coats in air of 300: a CROSS of 67 breaks in the 24th month, and one of 66 in the 25th. */
-    private static DovetailRow slow(int size) {
-        DovetailRow shop = Shops.oneJoint(OAK, 1000, CROSS, size, 0, 300);
-        for (int i = 0; i < 6; i++) {
-            shop.coat(0);
-        }
-        return shop;
-    }
-
     private static void withinTheNextMonths() {
         Check.answers("not within 1", 0, Shops::glued, s -> s.through(1));
         Check.answers("the first within 2", 1, Shops::glued, s -> s.through(2));
         Check.answers("both within 3", 3, Shops::glued, s -> s.through(3));
-        Check.answers("not within 23", 0, () -> slow(67), s -> s.through(23));
-        Check.answers("within 24", 1, () -> slow(67), s -> s.through(24));
-        Check.answers("not within 24", 0, () -> slow(66), s -> s.through(24));
-        Check.answers("within 24 of the next month on", 1, () -> Shops.later(slow(66), 1), s -> s.through(24));
-        Check.answers("so it breaks in the 25th", 1, () -> Shops.later(slow(66), 24), s -> s.pass(1));
+        Check.answers("not within 23", 0, () -> Shops.slow(67, 0), s -> s.through(23));
+        Check.answers("within 24", 1, () -> Shops.slow(67, 0), s -> s.through(24));
+        Check.answers("not within 24", 0, () -> Shops.slow(66, 0), s -> s.through(24));
+        Check.answers("within 24 of the next month on", 1, () -> Shops.later(Shops.slow(66, 0), 1), s -> s.through(24));
+        Check.answers("so it breaks in the 25th", 1, () -> Shops.later(Shops.slow(66, 0), 24), s -> s.pass(1));
         // Only the second month is damp; by the 24th all is as it was, but the joint is broken.
         DovetailRow shop = Shops.oneJoint(OAK, 1000, CROSS, 1000, 0, 100);
         shop.weather(1, 300);
@@ -75,39 +66,32 @@ public final class Edge16ThroughTest {
         Check.due("the next month, dry", shop.through(1), 1);
     }
 
-    private static DovetailRow damp(int month, int remainder) {
-        DovetailRow shop = Shops.at(month);
-        shop.weather(remainder, 300);
-        return shop;
-    }
-
     // The month 1200 has the remainder 0, as has 1212; the last that is looked at is 1223, of 11.
     private static void past1200() {
         for (int remainder = 0; remainder < 12; remainder++) {
             int damp = remainder;
-            Check.answers("with " + remainder + " in 1200", 1, () -> damp(1200, damp), s -> s.through(damp + 1));
+            Check.answers("with " + remainder + " in 1200", 1, () -> Shops.damp(1200, damp), s -> s.through(damp + 1));
             if (remainder > 0) {
-                Check.answers("before " + remainder + " in 1200", 0, () -> damp(1200, damp), s -> s.through(damp));
+                Check.answers("before " + remainder + " in 1200", 0, () -> Shops.damp(1200, damp),
+                        s -> s.through(damp));
             }
         }
-        Check.answers("1199 is the last that goes by", 1, () -> damp(1199, 11), s -> s.through(1));
-        Check.answers("1200 from 1199 on", 1, () -> damp(1199, 0), s -> s.through(2));
-        Check.answers("not within 1 of 1199", 0, () -> damp(1199, 0), s -> s.through(1));
-        Check.answers("1222 from 1199 on", 0, () -> damp(1199, 10), s -> s.through(11));
-        Check.refused("pass does not go there", Check.STATE, () -> damp(1200, 0), s -> s.pass(1));
-        // Oak with 6 coats, glued in the month 1200.
-        Check.answers("the 24th month past it", 1, () -> slowAt1200(67), s -> s.through(24));
-        Check.answers("not the 23rd", 0, () -> slowAt1200(67), s -> s.through(23));
-        Check.answers("not the 25th", 0, () -> slowAt1200(66), s -> s.through(24));
-    }
-
-    private static DovetailRow slowAt1200(int size) {
-        DovetailRow shop = Shops.later(Shops.oneJoint(OAK, 1000, CROSS, size, 0, 100), 1200);
-        for (int i = 0; i < 6; i++) {
-            shop.coat(0);
+        Check.answers("1199 is the last that goes by", 1, () -> Shops.damp(1199, 11), s -> s.through(1));
+        Check.answers("1200 from 1199 on", 1, () -> Shops.damp(1199, 0), s -> s.through(2));
+        Check.answers("not within 1 of 1199", 0, () -> Shops.damp(1199, 0), s -> s.through(1));
+        Check.answers("1222 from 1199 on", 0, () -> Shops.damp(1199, 10), s -> s.through(11));
+        for (int remainder = 0; remainder < 12; remainder++) {
+            int damp = remainder;
+            Check.answers("the second year's " + remainder, 1, () -> Shops.breaksInTheSecondYear(1200, damp),
+                    s -> s.through(13 + damp));
+            Check.answers("before the second year's " + remainder, 0, () -> Shops.breaksInTheSecondYear(1200, damp),
+                    s -> s.through(12 + damp));
         }
-        Shops.setAir(shop, 300);
-        return shop;
+        Check.refused("pass does not go there", Check.STATE, () -> Shops.damp(1200, 0), s -> s.pass(1));
+        // In damp air from the month 1200 on, up to 1223 and 1224.
+        Check.answers("the 24th month past it", 1, () -> Shops.slow(67, 1200), s -> s.through(24));
+        Check.answers("not the 23rd", 0, () -> Shops.slow(67, 1200), s -> s.through(23));
+        Check.answers("not the 25th", 0, () -> Shops.slow(66, 1200), s -> s.through(24));
     }
 
     private static void months() {
@@ -115,24 +99,9 @@ public final class Edge16ThroughTest {
         Edge.range(Check.RANGE, 1, 24, () -> Shops.at(1200), (s, i) -> s.through(i));
     }
 
-    /** Oak with 30 glued joints; those whose number is in the set are CROSS of 1000, and break at once. */
-    private static DovetailRow crosses(int set) {
-        DovetailRow shop = new DovetailRow();
-        shop.board(OAK, 0, 0, 1000, 5000, 100);
-        shop.cut(0, 0, 1000, 1000, false);
-        shop.cut(0, 2000, 1000, 1000, false);
-        for (int i = 0; i < 30; i++) {
-            shop.sharpen(1);
-            shop.joint((set >> i & 1) == 1 ? CROSS : DovetailRow.LONG, 0, 1, 1000, 0);
-            shop.glue(1 << i);
-        }
-        Shops.setAir(shop, 300);
-        return shop;
-    }
-
     private static void asASet() {
         for (int set : new int[] {0, 1, 2, 1 << 29, (1 << 29) + 1, (1 << 30) - 1}) {
-            Check.answers("the set " + set, set, () -> crosses(set), s -> s.through(1));
+            Check.answers("the set " + set, set, () -> Shops.thirtyGlued(set), s -> s.through(1));
         }
     }
 

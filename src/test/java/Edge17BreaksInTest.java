@@ -46,32 +46,27 @@ public final class Edge17BreaksInTest {
         }
     }
 
-    private static DovetailRow damp(int month, int remainder) {
-        DovetailRow shop = Shops.at(month);
-        shop.weather(remainder, 300);
-        return shop;
-    }
-
     private static void past1200() {
         for (int remainder = 0; remainder < 12; remainder++) {
             int told = remainder;
-            Check.answers("from 1200 on", remainder + 1, () -> damp(1200, told), s -> s.breaksIn(0, 24));
-            Check.answers("from 1199 on", (remainder + 1) % 12 + 1, () -> damp(1199, told), s -> s.breaksIn(0, 24));
-            Check.answers("from 1190 on", (remainder + 10) % 12 + 1, () -> damp(1190, told), s -> s.breaksIn(0, 24));
+            Check.answers("from 1200 on", remainder + 1, () -> Shops.damp(1200, told), s -> s.breaksIn(0, 24));
+            Check.answers("from 1199 on", (remainder + 1) % 12 + 1, () -> Shops.damp(1199, told),
+                    s -> s.breaksIn(0, 24));
+            Check.answers("from 1190 on", (remainder + 10) % 12 + 1, () -> Shops.damp(1190, told),
+                    s -> s.breaksIn(0, 24));
         }
-        Check.answers("in none of them", NONE, () -> damp(1200, 11), s -> s.breaksIn(0, 11));
-        Check.answers("the 24th past 1200", 24, () -> slow(67, 1200), s -> s.breaksIn(0, 24));
-        Check.answers("the 25th past 1200", NONE, () -> slow(66, 1200), s -> s.breaksIn(0, 24));
-    }
-
-    /** Oak with 6 coats: from this month on in air of 300, a CROSS of 67 breaks in the 24th, one of 66 in the 25th. */
-    private static DovetailRow slow(int size, int month) {
-        DovetailRow shop = Shops.later(Shops.oneJoint(OAK, 1000, CROSS, size, 0, 100), month);
-        for (int i = 0; i < 6; i++) {
-            shop.coat(0);
+        for (int remainder = 0; remainder < 12; remainder++) {
+            int told = remainder;
+            Check.answers("in the second year from 1200 on", 13 + remainder,
+                    () -> Shops.breaksInTheSecondYear(1200, told), s -> s.breaksIn(0, 24));
+            Check.answers("in the second year from 1188 on", 13 + remainder,
+                    () -> Shops.breaksInTheSecondYear(1188, told), s -> s.breaksIn(0, 24));
+            Check.answers("in the second year from 1199 on", 13 + (remainder + 1) % 12,
+                    () -> Shops.breaksInTheSecondYear(1199, told), s -> s.breaksIn(0, 24));
         }
-        Shops.setAir(shop, 300);
-        return shop;
+        Check.answers("in none of them", NONE, () -> Shops.damp(1200, 11), s -> s.breaksIn(0, 11));
+        Check.answers("the 24th past 1200", 24, () -> Shops.slow(67, 1200), s -> s.breaksIn(0, 24));
+        Check.answers("the 25th past 1200", NONE, () -> Shops.slow(66, 1200), s -> s.breaksIn(0, 24));
     }
 
     // In a busy shop 1 to 4 are glued, and not broken.
@@ -90,18 +85,18 @@ public final class Edge17BreaksInTest {
         Check.answers("1", 1, () -> Shops.oneJoint(OAK, 1000, CROSS, 750, 0, 164), s -> s.breaksIn(0, 1));
         Check.answers("1 of 24", 1, () -> Shops.oneJoint(OAK, 1000, CROSS, 750, 0, 164), s -> s.breaksIn(0, 24));
         Check.answers("2", 2, () -> Shops.oneJoint(OAK, 1000, CROSS, 749, 0, 164), s -> s.breaksIn(0, 2));
-        Check.answers("24", 24, () -> slow(67, 0), s -> s.breaksIn(0, 24));
+        Check.answers("24", 24, () -> Shops.slow(67, 0), s -> s.breaksIn(0, 24));
         for (int gone = 0; gone < 24; gone++) {
-            DovetailRow shop = Shops.later(slow(67, 0), gone);
+            DovetailRow shop = Shops.later(Shops.slow(67, 0), gone);
             Check.due("after " + gone, shop.breaksIn(0, 24), 24 - gone);
         }
-        Check.answers("then it breaks", 1, () -> Shops.later(slow(67, 0), 23), s -> s.pass(1));
+        Check.answers("then it breaks", 1, () -> Shops.later(Shops.slow(67, 0), 23), s -> s.pass(1));
     }
 
     private static void inNone() {
         Check.answers("2 of 1", NONE, () -> Shops.oneJoint(OAK, 1000, CROSS, 749, 0, 164), s -> s.breaksIn(0, 1));
-        Check.answers("24 of 23", NONE, () -> slow(67, 0), s -> s.breaksIn(0, 23));
-        Check.answers("25 of 24", NONE, () -> slow(66, 0), s -> s.breaksIn(0, 24));
+        Check.answers("24 of 23", NONE, () -> Shops.slow(67, 0), s -> s.breaksIn(0, 23));
+        Check.answers("25 of 24", NONE, () -> Shops.slow(66, 0), s -> s.breaksIn(0, 24));
         Check.answers("never", NONE, () -> Shops.at(0), s -> s.breaksIn(0, 24));
     }
 

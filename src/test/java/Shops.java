@@ -144,6 +144,54 @@ final class Shops {
         return later(oneJoint(DovetailRow.OAK, 1000, DovetailRow.CROSS, 1000, 0, 100), month);
     }
 
+    /** The same, and one month of each year is so damp from now on that the joint breaks in it. */
+    static DovetailRow damp(int month, int dampMonth) {
+        DovetailRow shop = at(month);
+        shop.weather(dampMonth, 300);
+        return shop;
+    }
+
+    /**
+     * Oak with 6 coats in this month, in air of 300 from now on: a CROSS of 67 breaks in the 24th month, one of 66
+     * in the 25th.
+     */
+    static DovetailRow slow(int size, int month) {
+        DovetailRow shop = later(oneJoint(DovetailRow.OAK, 1000, DovetailRow.CROSS, size, 0, 100), month);
+        for (int i = 0; i < 6; i++) {
+            shop.coat(0);
+        }
+        setAir(shop, 300);
+        return shop;
+    }
+
+    /** Oak with 30 glued joints; those whose numbers are in the set are CROSS, and break in the next month. */
+    static DovetailRow thirtyGlued(int set) {
+        DovetailRow shop = new DovetailRow();
+        shop.board(DovetailRow.OAK, 0, 0, 1000, 5000, 100);
+        shop.cut(0, 0, 1000, 1000, false);
+        shop.cut(0, 2000, 1000, 1000, false);
+        for (int i = 0; i < 30; i++) {
+            shop.sharpen(1);
+            shop.joint((set >> i & 1) == 1 ? DovetailRow.CROSS : DovetailRow.LONG, 0, 1, 1000, 0);
+            shop.glue(1 << i);
+        }
+        setAir(shop, 300);
+        return shop;
+    }
+
+    /**
+     * Oak with 6 coats and a CROSS of 500, in this month. One month of each year is damp from now on: the first one
+     * makes the oak 20 moister, and the joint holds, the second one 27, and it breaks.
+     */
+    static DovetailRow breaksInTheSecondYear(int month, int dampMonth) {
+        DovetailRow shop = later(oneJoint(DovetailRow.OAK, 1000, DovetailRow.CROSS, 500, 0, 100), month);
+        for (int i = 0; i < 6; i++) {
+            shop.coat(0);
+        }
+        shop.weather(dampMonth, 300);
+        return shop;
+    }
+
     /** The same shop, so many months later. */
     static DovetailRow later(DovetailRow shop, int months) {
         int left = months;
